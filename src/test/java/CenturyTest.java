@@ -85,6 +85,13 @@ public final class CenturyTest {
             }
         }
         CHECK.same("without cries", x.century(41, 3, 16, 9, 3), bare);
+        CryGorge one = Check.made("bay 1 1;cry 1 2;");
+        Check.work(one, "keep 0 0;felt 0;");
+        CHECK.same("the one cry", one.century(8, 1, 16, 16, 2), 1);
+        CHECK.same("the one door", one.century(8, 1, 16, 16, 3), 1);
+        CHECK.same("1 is left", one.century(8, 1, 16, 16, 0), 1);
+        CHECK.same("so it is not gone", one.span(8, 3, 1, 16, 16, 2, 0), 3);
+        CHECK.same("the most is 0", one.span(8, 3, 2, 16, 16, 1, 0), 0);
     }
 
     private static void spans() {

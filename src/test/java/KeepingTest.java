@@ -51,6 +51,9 @@ public final class KeepingTest {
         CHECK.same("bay(1, 3)", x.bay(1, 3), 1);
         work(x, "bare 1;", 1, 0);
         CHECK.same("told(4)", x.told(4), 1);
+        CryGorge y = Check.made("bay 1 1;felt 2;");
+        work(y, "felt 0;felt 0;", 1, 1);
+        CHECK.same("told(4)", y.told(4), 1);
     }
 
     private static void fillAndLoose() {
@@ -100,7 +103,7 @@ public final class KeepingTest {
 
     private static void loops() {
         CryGorge x = Check.made("bay 0 1;cry 0 1;");
-        work(x, "again 0[year;];", 0, 0);
+        work(x, "again 0[year;];loose 0;again 0[];loose 0;", 0, 2);
         work(x, "again 3[again 2[year;];loose 0;];", 6, 3);
         work(x, "again 20[again 20[loose 0;];];", 0, 189);
         work(x, "again 40[again 40[again 40[again 40[again 40[again 40[];];];];];];year;", 0, 0);
@@ -162,6 +165,7 @@ public final class KeepingTest {
         CHECK.same("told(9)", x.told(9), 0);
         CHECK.same("told(2)", x.told(2), 1);
         CHECK.same("told(4)", x.told(4), 0);
+        CHECK.same("bay(0, 3)", x.bay(0, 3), 1);
         CHECK.same("told(5)", x.told(5), 1);
         CHECK.same("cry(2, 1)", x.cry(2, 1), 4);
         CHECK.same("cry(2, 2)", x.cry(2, 2), 1);

@@ -31,6 +31,7 @@ public final class PathsTest {
         way(x, 4, 1, 47, 3);
         way(x, 0, 5, -1, -1);
         way(x, 5, 5, 0, -1);
+        way(x, 2, 3, 1, 3);
         CHECK.noSuch("way(6, 0, 9)", () -> x.way(6, 0, 9));
         CHECK.noSuch("way(0, 6, 9)", () -> x.way(0, 6, 9));
         CHECK.noSuch("way(-1, 0, 0)", () -> x.way(-1, 0, 0));
@@ -44,6 +45,7 @@ public final class PathsTest {
         CHECK.same("itself told", x.round(0, 1), 0);
         CHECK.same("one", x.round(0, 4), 10);
         CHECK.same("two on the way", x.round(0, 6), 10);
+        CHECK.same("to bay 0", x.round(1, 1), 4);
         CHECK.same("there and back: 3 first", x.round(0, 14), 1 + 1 + 4 + 6);
         CHECK.same("from the middle: 4 1 1 4 6", x.round(1, 12), 4 + 1 + 1 + 4 + 6);
         CHECK.same("without a way", x.round(0, 16), -1);

@@ -100,6 +100,11 @@ public final class PlansTest {
         Check.law(x, "age+year");
         Check.heard(x, "3 14;");
         CHECK.same("0, 2 and 4 less, in any bay", x.whose(0), 3);
+        Check.heard(x, "40 0;39 1;");
+        CHECK.same("the age 40 counts", x.whose(0), 0);
+        Check.law(x, "0");
+        Check.heard(x, "40 30;");
+        CHECK.same("the age 40 counts", x.whose(0), 3);
         CHECK.illegal("whose(2)", () -> x.whose(2));
         CHECK.illegal("whose(-1)", () -> x.whose(-1));
     }
@@ -123,6 +128,17 @@ public final class PlansTest {
         Check.heard(x, "0 9;1 9;3 9;");
         CHECK.same("they can't be told apart", x.listen(0), 2);
         CHECK.same("three are left", x.listen(1), 3);
+        CryGorge y = Check.made("bay 0 1;bay 0 1;cry 0 99;");
+        Check.law(y, "age/39*(1-bay)");
+        CHECK.same("only the age 40 tells", y.listen(0), 40);
+        CHECK.same("one is left", y.listen(1), 1);
+        Check.law(y, "99");
+        Check.heard(y, "0 99;");
+        CHECK.same("both are gone at once", y.listen(1), 2);
+        CHECK.same("and stay so, asked again", y.listen(1), 2);
+        Check.law(y, "0");
+        CHECK.same("both stay at 99", y.listen(1), 2);
+        CHECK.same("and so, asked again", y.listen(1), 2);
         CHECK.illegal("listen(2)", () -> x.listen(2));
         CHECK.illegal("listen(-1)", () -> x.listen(-1));
     }

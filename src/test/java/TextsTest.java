@@ -87,7 +87,10 @@ public final class TextsTest {
         CHECK.text(x, "gorge", "bay 1 1;bay 1 1;path 0 1 0;", -8, 25);
         CHECK.text(x, "gorge", "bay 1 1;bay 1 1;path 1 0 41;", -8, 25);
         CHECK.text(x, "gorge", "bay 1 1;bay 1 1;path 1 0 40;", 0, -1);
+        CHECK.text(x, "gorge", "felt 0;bay 1 1;bay 1 1;", 0, -1);
         CHECK.text(x, "gorge", "bays 1 1;", -9, 0);
+        CHECK.text(x, "gorge", "bayz 1 1;", -9, 0);
+        CHECK.text(x, "gorge", "day 1 1;", -9, 0);
         CHECK.text(x, "gorge", "  Bay 1 1;", -9, 2);
         CHECK.text(x, "gorge", "bay 1 1", -9, 7);
         CHECK.text(x, "gorge", "bay 1 1  ", -9, 9);
@@ -113,12 +116,20 @@ public final class TextsTest {
         CHECK.text(x, "gorge", repeat("term1;", 60), 0, -1);
         CHECK.text(x, "gorge", repeat("term1;", 61), -7, 360);
         CHECK.text(x, "gorge", repeat("felt1;", 60) + "cry", -7, 360);
+        CHECK.text(x, "gorge", repeat("felt1;", 60) + "felt1;", -7, 360);
+        CHECK.text(x, "gorge", repeat("felt1;", 60) + "path", -7, 360);
+        CHECK.text(x, "gorge", repeat("felt1;", 60) + "bay", -7, 360);
         CHECK.text(x, "gorge", repeat("felt1;", 60) + "crow", -9, 360);
         CHECK.text(x, "gorge", repeat("felt1;", 60) + "  ", 0, -1);
         CHECK.text(x, "gorge", "term 5;term 6;felt 1;felt 2;bay 0 1;bay 0 1;path 0 1 3;path 1 0 8;", 0, -1);
         CHECK.same("the last term counts", x.told(3), 6);
         CHECK.same("the last felt counts", x.told(4), 2);
         CHECK.same("the last path counts", x.way(0, 1, 0), 8);
+        CHECK.text(x, "gorge", "bay 0 1;bay 0 1;", 0, -1);
+        CHECK.same("the usual term", x.told(3), 21);
+        CHECK.same("the usual felt", x.told(4), 3);
+        CHECK.same("no paths", x.way(0, 1, 0), -1);
+        CHECK.same("no paths", x.bay(0, 4), 0);
     }
 
     private static void gorgeForgets() {
@@ -140,6 +151,7 @@ public final class TextsTest {
         CHECK.same("felt", x.told(4), 3);
         CHECK.same("door", x.bay(0, 3), 0);
         CHECK.same("strength", x.told(10), 50);
+        CHECK.same("age", x.cry(0, 2), 0);
         CHECK.same("refused", x.told(9), 0);
         CHECK.same("law", x.would(1, 0, 0, 0, 0, 0, 0, 0), 1);
         CHECK.same("images", x.count(0), 0);
@@ -178,6 +190,8 @@ public final class TextsTest {
         CHECK.text(x, "law", "((((((most[1,2]))))))", -7, 6);
         CHECK.text(x, "law", "((((((leas", -9, 6);
         CHECK.text(x, "law", "least[1,least[1,least[1,least[1,least[1,least[1,(", -7, 48);
+        CHECK.text(x, "law", "((((((3))))))", 1, -1);
+        CHECK.text(x, "law", repeat("most[1,2]+", 7) + "((((((1))))))", 1, -1);
         CHECK.text(x, "law", "(1)+(1)+(1)+(1)+(1)+(1)+(1)+((((((1))))))", 1, -1);
         CHECK.text(x, "law", "most[(1),least[((((1)))),2]]", 1, -1);
         CHECK.same("the last good law stays", x.would(0, 0, 0, 0, 0, 0, 0, 0), 1);
@@ -210,8 +224,9 @@ public final class TextsTest {
         CHECK.text(x, "work", repeat("again 1[", 6) + "year;" + repeat("];", 6), 1, -1);
         CHECK.text(x, "work", repeat("again 1[", 6) + " again", -7, 49);
         CHECK.text(x, "work", repeat("again 1[", 6) + "agai", -9, 48);
+        CHECK.text(x, "work", repeat("again 0[", 6) + repeat("];", 6), 0, -1);
         CHECK.text(x, "work", "again 1[];again 1[];again 1[];again 1[];again 1[];again 1[];again 1[];", 0, -1);
-        CHECK.same("only the good ones were done", x.count(2), 4);
+        CHECK.same("only the good ones were done", x.count(2), 5);
         CHECK.same("one year", x.told(2), 1);
         CHECK.same("a fault behind a good step", Check.work(x, "year;yeah;"), -9);
         CHECK.same("none is done", x.told(2), 1);
