@@ -166,6 +166,7 @@ public final class KeepingTest {
         CHECK.same("told(2)", x.told(2), 1);
         CHECK.same("told(4)", x.told(4), 0);
         CHECK.same("bay(0, 3)", x.bay(0, 3), 1);
+        CHECK.same("bay(1, 3)", x.bay(1, 3), 0);
         CHECK.same("told(5)", x.told(5), 1);
         CHECK.same("cry(2, 1)", x.cry(2, 1), 4);
         CHECK.same("cry(2, 2)", x.cry(2, 2), 1);
