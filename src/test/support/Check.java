@@ -1,3 +1,5 @@
+import java.util.function.IntUnaryOperator;
+
 /** Counts answers that are not as due, and feeds texts to the tape. */
 final class Check {
     static final int NO_SUCH = -1001;
@@ -9,12 +11,72 @@ final class Check {
     }
 
     private int wrong;
+    private String test = "";
+
+    /** What is looked at from here on is told under the name of a test. */
+    void begin(String name) {
+        test = name + ": ";
+    }
 
     void same(String call, int got, int due) {
         if (got != due) {
             wrong++;
-            System.out.println(call + " answered " + shown(got) + ", due is " + shown(due));
+            System.out.println(test + call + " answered " + shown(got) + ", due is " + shown(due));
         }
+    }
+
+    void alike(String what, String got, String due) {
+        if (!got.equals(due)) {
+            wrong++;
+            System.out.println(test + what + " is" + got + ", due is" + due);
+        }
+    }
+
+    /** A number of a call that may be least to most, and nothing just outside or far outside of that. */
+    void range(String call, int least, int most, IntUnaryOperator made) {
+        for (int number : new int[] {Integer.MIN_VALUE, least - 1, most + 1, Integer.MAX_VALUE}) {
+            illegal(call + " of " + number, () -> made.applyAsInt(number));
+        }
+        for (int number : new int[] {least, most}) {
+            int got = outcome(() -> made.applyAsInt(number));
+            same(call + " of " + number + " is refused", got == NO_SUCH || got == ILLEGAL || got == OTHER ? 1 : 0, 0);
+        }
+    }
+
+    /** The same for the number of a bay or a cry, of which there are so many. */
+    void elements(String call, int many, IntUnaryOperator made) {
+        for (int number : new int[] {Integer.MIN_VALUE, -1, many, Integer.MAX_VALUE}) {
+            noSuch(call + " of " + number, () -> made.applyAsInt(number));
+        }
+        for (int number = 0; number < many; number++) {
+            int tried = number;
+            int got = outcome(() -> made.applyAsInt(tried));
+            same(call + " of " + number + " is refused", got == NO_SUCH || got == ILLEGAL || got == OTHER ? 1 : 0, 0);
+        }
+    }
+
+    /** A call that throws, and changes nothing that can be seen but how many were refused. */
+    void refused(CryGorge x, String call, int due, Call made) {
+        String before = Look.all(x);
+        int noSuch = x.status(0);
+        int illegal = x.status(1);
+        same(call, outcome(made), due);
+        alike("all behind " + call, Look.all(x), before);
+        same("status(0) behind " + call, x.status(0), noSuch + (due == NO_SUCH ? 1 : 0));
+        same("status(1) behind " + call, x.status(1), illegal + (due == ILLEGAL ? 1 : 0));
+    }
+
+    /** Works a text: how many of its steps are done, and how many are refused. */
+    void works(CryGorge x, String text, int done, int refused) {
+        same("work \"" + text + "\"", work(x, text), done);
+        same("told(9) behind it", x.told(9), refused);
+    }
+
+    /** A text of steps that are all refused, and change nothing. */
+    void allRefused(CryGorge x, String text, int steps) {
+        String before = Look.keeping(x);
+        works(x, text, 0, steps);
+        alike("all behind \"" + text + "\"", Look.keeping(x), before);
     }
 
     void noSuch(String call, Call made) {
@@ -23,6 +85,18 @@ final class Check {
 
     void illegal(String call, Call made) {
         same(call, outcome(made), ILLEGAL);
+    }
+
+    /** A gorge in the year 300, the work that keeps its cries being done in the year 0, the law being 0. */
+    CryGorge inTheYear300(String gorge, String kept) {
+        CryGorge x = made(gorge);
+        same("a law by which nothing fades", law(x, "0"), 1);
+        work(x, kept);
+        works(x, "again 40[year;year;year;year;year;];", 199, 0);
+        works(x, "again 20[year;year;year;year;year;];", 100, 0);
+        works(x, "year;", 1, 0);
+        same("the year", x.told(2), 300);
+        return x;
     }
 
     void end() {
