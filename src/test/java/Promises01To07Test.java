@@ -136,6 +136,30 @@ public final class Promises01To07Test {
         c.same("a 17th", x.work(0), -20);
     }
 
+    @Says("are the GORGE (YEAR 0; no LAW, nothing HEARD, no IMAGES, nothing to undo)")
+    static void promise03GorgeNothingOfTheOneAheadIsLeft(Check c) {
+        String full = "bay 9 4;".repeat(6) + "cry 9 99;".repeat(8);
+        for (int bay = 0; bay < 6; bay++) {
+            for (int other = bay + 1; other < 6; other++) {
+                full += "path " + bay + " " + other + " 1;";
+            }
+        }
+        CryGorge x = Check.made(full + "term 1;felt 9;");
+        c.works(x, "keep 7 5;felt 5;felt 0;year;out 6;", 5, 0);
+        String bare = "bay 0 1;".repeat(6) + "cry 0 1;".repeat(8);
+        c.same("gorge", Check.gorge(x, bare), 8);
+        c.alike("all", Look.all(x), Look.all(Check.made(bare)));
+        for (int bay = 0; bay < 6; bay++) {
+            c.same("no paths", x.bay(bay, 4), 0);
+            c.same("no ways", x.way(bay, (bay + 1) % 6, 0), -1);
+            c.same("no rounds", x.round(bay, 63), -1);
+        }
+        c.same("a keeper at each", x.ears(), 63);
+        c.same("gorge", Check.gorge(x, "bay 0 1;"), 0);
+        c.noSuch("bay(1, 0)", () -> x.bay(1, 0));
+        c.noSuch("cry(0, 0)", () -> x.cry(0, 0));
+    }
+
     @Says("how many CRIES; or the FAULT less 10 (all stays).")
     static void promise03GorgeHowManyCries(Check c) {
         for (int cries = 0; cries <= 8; cries++) {

@@ -32,7 +32,7 @@ public final class Promises08To15Test {
 
     /** An object with so many works of its own, of which some do nothing. */
     private static CryGorge worked(int works) {
-        String[] texts = {"keep 0 0;", "", "felt 1;", "year;", "loose 1;", "fill 1 30;keep 2 1;", "year;", "out 0;"};
+        String[] texts = {"keep 0 0;", "", "felt 1;", "year;", "loose 1;", "fill 1 30;keep 2 1;", "out 0;", "year;"};
         CryGorge x = Check.made(LAND);
         for (int work = 0; work < works; work++) {
             Check.work(x, texts[work % 8]);
@@ -226,6 +226,28 @@ public final class Promises08To15Test {
         c.same("gone in 97", x.ahead(97, 1), 8);
         c.same("gone in 98", x.ahead(98, 1), 9);
         c.same("gone in 99", x.ahead(99, 1), 9);
+    }
+
+    @Says("In n YEARS (0 to 99), nothing being done")
+    static void promise13AheadByTheAgeAndTheYearThatAreNow(Check c) {
+        CryGorge x = Check.made("bay 0 1;cry 0 50;term 9;");
+        c.same("work", Check.work(x, "keep 0 0;year;year;year;"), 4);
+        c.same("the law", Check.law(x, "age*2"), 1);
+        for (int asked = 0; asked < 2; asked++) {
+            // 6 and 8, by the ages 3 and 4, as often as it is asked
+            c.same("ahead(1, 0)", x.ahead(1, 0), 44);
+            c.same("ahead(2, 0)", x.ahead(2, 0), 36);
+            c.same("lasts(0): 6 8 10 12 14", x.lasts(0), 5);
+            c.same("ripe(0), at the age 9", x.ripe(0), 0);
+            c.same("century", x.century(1, 2, 0, 0, 0), 36);
+            c.same("span", x.span(1, 3, 2, 0, 0, 0, 0), 36);
+        }
+        c.same("the law", Check.law(x, "year*2"), 1);
+        c.same("ahead(2, 0)", x.ahead(2, 0), 36);
+        c.same("century", x.century(1, 2, 0, 0, 0), 36);
+        c.same("the law", Check.law(x, "age-year+1"), 1);
+        c.same("ahead(9, 0)", x.ahead(9, 0), 41);
+        c.same("ripe(0), in 6 years", x.ripe(0), 44);
     }
 
     @Says("LASTS (0: it is GONE); NONE.")

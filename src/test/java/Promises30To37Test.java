@@ -164,6 +164,8 @@ public final class Promises30To37Test {
         c.same("undo()", x.undo(), 2);
         c.same("undo()", x.undo(), 1);
         c.same("undo()", x.undo(), 0);
+        c.works(x, "fill 0 5;", 1, 0);
+        c.works(x, "year;year;year;", 3, 0);
         c.works(x, "year;", 1, 0);
         c.same("restore()", x.restore(), 0);
         c.alike("all that", Look.keeping(x), kept);

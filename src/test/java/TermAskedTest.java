@@ -150,6 +150,20 @@ public final class TermAskedTest {
     }
 
     @Says("PLAN of told CRIES (bits, 5 at most; OUT ones, too)")
+    static void termPlanOf5CriesIn6Bays(Check c) {
+        CryGorge x = Check.made("bay 5 4;bay 4 4;bay 3 4;bay 2 4;bay 1 4;bay 0 4;" + "cry 0 99;".repeat(8));
+        // 1 and 1 in the bay 5, and 1, 2, 3 in the bays 4, 3, 2; two in the bay 4 would be as good, but come later.
+        c.same("plan(31)", x.plan(31), 8);
+        planned(c, x, 31, 2, 3, 4, 5, 5, -1, -1, -1);
+        c.same("plan(248)", x.plan(248), 8);
+        planned(c, x, 248, -1, -1, -1, 2, 3, 4, 5, 5);
+        Check.law(x, "fade*9-mates*40");
+        c.same("four together, and one alone", x.plan(31), 0);
+        planned(c, x, 31, 0, 0, 0, 0, 5, -1, -1, -1);
+        c.same("the kindest is the last", x.kindest(7, 0), 5);
+    }
+
+    @Says("PLAN of told CRIES (bits, 5 at most; OUT ones, too)")
     static void termPlanOfOutOnes(Check c) {
         CryGorge x = Check.made("bay 7 1;bay 3 1;cry 0 9;cry 0 9;term 1;");
         Check.work(x, "keep 0 0;year;out 0;fill 1 30;");

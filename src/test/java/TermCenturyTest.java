@@ -58,6 +58,16 @@ public final class TermCenturyTest {
         century(c, x, by(1, 1, 7, 2), 54, 0, 1, 0);
     }
 
+    @Says("the CRY that is DRAW by how many there are is loose")
+    static void termCenturyOfOneCryAndOneBay(Check c) {
+        CryGorge x = Check.made("bay 0 1;cry 0 8;");
+        c.works(x, "keep 0 0;felt 0;", 2, 0);
+        century(c, x, by(1, 1, 6, 14), 8, 0, 0, 0);
+        century(c, x, by(1, 1, 7, 1), 4, 0, 1, 0);
+        century(c, x, by(1, 1, 7, 2), 4, 0, 1, 1);
+        century(c, x, by(1, 1, 0, 15), 8, 0, 0, 1);
+    }
+
     @Says("(as by loose, if it can)")
     static void termCenturyOneThatCanNotBeLoosedIsDrawnAllTheSame(Check c) {
         CryGorge x = made(c);

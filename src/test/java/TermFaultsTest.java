@@ -41,6 +41,14 @@ public final class TermFaultsTest {
     static void termWordsAsManyLettersAsStandThere(Check c) {
         text(c, "gorge", "bay1 1;cry1 1;path0 0 1;", -8, 20);
         text(c, "gorge", "bayy 1 1;", -9, 0);
+        text(c, "gorge", "baya 1 1;", -9, 0);
+        text(c, "gorge", "bayz 1 1;", -9, 0);
+        text(c, "gorge", "day 1 1;", -9, 0);
+        text(c, "gorge", "bad 1 1;", -9, 0);
+        text(c, "law", "jade", -9, 0);
+        text(c, "law", "fadez", -9, 0);
+        text(c, "work", "near;", -9, 0);
+        text(c, "work", "yeara;", -9, 0);
         text(c, "gorge", "termfelt 1;", -9, 0);
         text(c, "gorge", "te rm 1;", -9, 0);
         text(c, "gorge", "tErm 1;", -9, 0);

@@ -263,5 +263,20 @@ public final class TermLawTest {
         fades(c, "(((((least[1,2])))))", 1);
         fades(c, "((((((1))))))+((((((2))))))+least[(((((3))))),(((((4)))))]", 6);
         law(c, "((((((1))))))+(((((((2)))))))", -7, 20);
+        fades(c, "least[1,2]+".repeat(7) + "((((((1))))))", 8);
+        fades(c, "most[1,2]+".repeat(7) + "least[1,(((((1)))))]", 15);
+    }
+
+    @Says("or a 7th of ( least most again that is open at one time")
+    static void termLawNoneIsOpenBehindATextWithAFault(Check c) {
+        CryGorge x = new CryGorge();
+        for (String text : new String[] {"((((((x", "least[most[least[most[least[most[", "(((((((1)))))))"}) {
+            c.same(text, Check.law(x, text) < 0 ? 1 : 0, 1);
+            c.text(x, "law", "((((((7))))))", 1, -1);
+            c.text(x, "law", "(((((((7)))))))", -7, 6);
+        }
+        c.same("again", Check.work(x, "again 1[".repeat(7)), -7);
+        c.text(x, "law", "((((((7))))))", 1, -1);
+        c.text(x, "work", "again 1[".repeat(6) + "year;" + "];".repeat(6), 1, -1);
     }
 }
