@@ -72,6 +72,25 @@ public final class Promises08To15Test {
         c.same("all are kept", full.told(5), 255);
     }
 
+    @Says("7 GONE ones (bits), 8 lines of HEARD, 9 STEPS REFUSED by the latest WORK (0 ahead of any, behind undo(), restore()), 10 STRENGTH of all together.")
+    static void promise09ToldLinesAndStrengthOfAll(Check c) {
+        CryGorge x = new CryGorge();
+        c.same("no line", x.told(8), 0);
+        c.same("no cries", x.told(10), 0);
+        Check.heard(x, "0 1;1 1;2 1;3 1;4 1;5 1;");
+        c.same("six lines", x.told(8), 6);
+        Check.gorge(x, "cry 0 99;".repeat(8) + "term 1;");
+        c.same("no line", x.told(8), 0);
+        c.same("the most", x.told(10), 792);
+        Check.work(x, "again 7[year;];");
+        c.same("all are gone", x.told(7), 255);
+        c.same("nothing is left", x.told(10), 0);
+        Check.work(x, "fill 0 9;out 0;fill 1 1;");
+        c.same("an out one, too", x.told(10), 10);
+        c.same("all but two are gone", x.told(7), 252);
+        c.same("told(6)", x.told(6), 1);
+    }
+
     @Says("IllegalArgumentException: another what (so below).")
     static void promise09ToldAnotherWhat(Check c) {
         CryGorge x = Check.made(LAND);

@@ -201,6 +201,22 @@ public final class TermAskedTest {
         planned(c, none, 1, -1);
     }
 
+    @Says("they lose least together in this YEAR, as all is now (each what it FADES, no more than its STRENGTH); of alike ways the first (CRY by CRY the least BAY); NONE.")
+    static void termPlanInThisYearAsAllIsNow(Check c) {
+        CryGorge x = Check.made("bay 0 1;bay 0 1;cry 0 80;");
+        c.works(x, "keep 0 0;felt 0;year;year;", 4, 0);
+        Check.law(x, "year*3+age+felt*5+strength/10");
+        c.same("by the year 2, the age 2, 80, and a bare door", x.plan(1), 6 + 2 + 8);
+        planned(c, x, 1, 1);
+        c.works(x, "bare 0;fill 0 19;", 2, 0);
+        c.same("by 99", x.plan(1), 6 + 2 + 9);
+        planned(c, x, 1, 0);
+        c.works(x, "year;", 1, 0);
+        c.same("by the year 3, the age 3, and 82", x.plan(1), 9 + 3 + 8);
+        c.same("undo()", x.undo(), 2);
+        c.same("as ahead of it", x.plan(1), 6 + 2 + 9);
+    }
+
     @Says("(each what it FADES, no more than its STRENGTH)")
     static void termPlanNoMoreThanItsStrength(Check c) {
         CryGorge x = Check.made("bay 0 1;bay 9 1;cry 0 1;cry 0 9;");

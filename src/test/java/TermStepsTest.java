@@ -21,6 +21,25 @@ public final class TermStepsTest {
         }
     }
 
+    @Says("STEPS are done in order; one that can't be done is REFUSED")
+    static void termStepsAreDoneInOrder(Check c) {
+        String gorge = "bay 0 1;bay 0 1;cry 0 98;cry 0 9;felt 1;";
+        c.works(Check.made(gorge), "keep 0 0;keep 1 0;loose 0;", 2, 1);
+        c.works(Check.made(gorge), "keep 0 0;loose 0;keep 1 0;", 3, 0);
+        c.works(Check.made(gorge), "felt 0;felt 1;bare 0;", 2, 1);
+        c.works(Check.made(gorge), "felt 0;bare 0;felt 1;", 3, 0);
+        CryGorge ahead = Check.made(gorge);
+        c.works(ahead, "fill 0 5;year;", 2, 0);
+        c.same("99, then its half", ahead.cry(0, 1), 49);
+        CryGorge behind = Check.made(gorge);
+        c.works(behind, "year;fill 0 5;", 2, 0);
+        c.same("the half of 98, then 5 more", behind.cry(0, 1), 54);
+        CryGorge loops = Check.made(gorge);
+        c.works(loops, "again 2[fill 1 1;again 2[year;];];fill 1 1;", 7, 0);
+        // 9 10 5 2, 3 1 0, 1
+        c.same("inner ones ahead of what is behind them", loops.cry(1, 1), 1);
+    }
+
     @Says("one that can't be done is REFUSED, and changes nothing")
     static void termStepsGoOnBehindARefusedOne(Check c) {
         CryGorge x = Check.made("bay 0 1;cry 0 9;");
